@@ -41,9 +41,14 @@ final class Expect {
         thrown(what, ArithmeticException.class, call);
     }
 
-    /** The very class, so that what the machine throws (a subclass) does not count. */
+    /** The very class, and thrown by MailOffice: not by the machine or the library for it. */
     static void thrown(String what, Class<?> want, Call call) {
-        equal(what + " throws", want, outcome(call).getClass());
+        Object outcome = outcome(call);
+        equal(what + " throws", want, outcome.getClass());
+        if (outcome instanceof RuntimeException) {
+            String thrower = ((RuntimeException) outcome).getStackTrace()[0].getClassName();
+            equal(what + " is thrown by", "MailOffice", thrower.replaceFirst("\\$.*", ""));
+        }
     }
 
     /** The answer, or the exception that the call throws. */

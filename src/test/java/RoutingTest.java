@@ -13,6 +13,7 @@ final class RoutingTest {
         hasPrefix();
         longestMatch();
         leadingZeros();
+        treeOfAChangedTable();
         wrongCodes();
         codesOf();
         codesOfCountsAllCodes();
@@ -116,6 +117,39 @@ final class RoutingTest {
         routes(x, 80, 1, 1);
         routes(x, 700, 1, 1);
         noRoute(x, 7000);
+    }
+
+    private static void treeOfAChangedTable() {
+        MailOffice x = Offices.after("prefix 12 1;prefix 1 0");
+        routes(x, 1234, 1, 2);
+        x.removePrefix(12, 2);
+        routes(x, 1234, 0, 1);
+        x.addPrefix(123, 3, 5);
+        routes(x, 1234, 5, 3);
+        x.removePrefix(1, 1);
+        x.addPrefix(99, 2, 2);
+        routes(x, 1234, 5, 3);
+        routes(x, 9912, 2, 2);
+        noRoute(x, 1212);
+        noRoute(x, 9123);
+        x.undo();
+        noRoute(x, 9912);
+        fullTree();
+    }
+
+    /** Twelve prefixes of four digits, which need more nodes than any shorter ones. */
+    private static void fullTree() {
+        MailOffice x = new MailOffice();
+        for (int route = 0; route < 6; route++) {
+            x.addPrefix(1111 * route, 4, route);
+            x.addPrefix(1111 * route + 4000 + 9, 4, 5 - route);
+        }
+        for (int route = 0; route < 6; route++) {
+            routes(x, 1111 * route, route, 4);
+            routes(x, 1111 * route + 4009, 5 - route, 4);
+            noRoute(x, 1111 * route + 1);
+        }
+        Expect.equal("55 a full tree", true, x.isConsistent());
     }
 
     private static void routes(MailOffice x, int code, int route, int length) {

@@ -5,6 +5,7 @@ final class UndoTest {
 
     public static void main(String[] args) {
         everyChangeCanBeUndone();
+        copiesHoldEverything();
         changesWithoutEffect();
         atMostEight();
         failedCallsAreNoChanges();
@@ -49,6 +50,39 @@ final class UndoTest {
         Expect.equal("63 " + what, before, Offices.picture(x));
         Expect.equal("63 next id after " + what, 3, x.accept(1, 1, false));
         x.undo();
+    }
+
+    /** An office in which nothing is as it was at first. */
+    private static MailOffice veteran() {
+        return Offices.after("prefix 1 0;standard 1000 5;sort", "priority 5 5;place 1 2;hours 6",
+            "place 1 2;hours 24;place 1 2;hours 24", "cutoff 1 7;cutoff 5 3;departure 4 11",
+            "standard 6 6;place 2 4;standard 7 7;place 3 3");
+    }
+
+    private static void copiesHoldEverything() {
+        MailOffice x = veteran();
+        x.sortAll();
+        x.undo();
+        Expect.equal("63 cutoffs", "7 3", x.cutoff(1) + " " + x.cutoff(5));
+        Expect.equal("63 departures", "11 6", x.departure(4) + " " + x.departure(5));
+        Expect.equal("63 time", "2 6", x.day() + " " + x.hour());
+        Expect.equal("63 delivered", 1, x.deliveredCount());
+        Expect.equal("63 dead", 1, x.deadCount());
+        Expect.equal("63 returns", 3, x.returnCount());
+        Expect.equal("63 bags", "1 1", x.bagCount(3) + " " + x.bagCount(4));
+        String before = Offices.picture(x);
+        x.sortAll();
+        x.undo();
+        Expect.equal("63 after no effect", before, Offices.picture(x));
+        x.save();
+        Offices.run(x, "cutoff 1 8;departure 4 1;prefix 6 4;hours 40;cutoff 5 4");
+        x.restore();
+        Expect.equal("65 after many changes", before, Offices.picture(x));
+        Expect.equal("55 after a restore", true, x.isConsistent());
+        Offices.run(x, "sort;hours 48");
+        x.undo();
+        Expect.equal("63 after many hours", before, Offices.picture(x));
+        Expect.equal("55 after an undo", true, x.isConsistent());
     }
 
     private static void changesWithoutEffect() {
