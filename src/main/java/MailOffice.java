@@ -355,7 +355,7 @@ public final class MailOffice {
         Office copy = office.duplicate();
         int hours = 0;
         while (copy.letterWith(wanted) != null && hours < HOURS_PER_DAY) {
-            copy.passHour();
+            copy.passHours(1);
             hours++;
         }
         return hours;
@@ -964,22 +964,22 @@ public final class MailOffice {
             }
             int deliveredBefore = delivered;
             for (int passed = 0; passed < hours; passed++) {
-                passHour();
+                moveClock();
+                for (int route = 0; route < ROUTES; route++) {
+                    if (departures[route] == hour) {
+                        bagCounts[route] = 0;
+                        sendLetters(route);
+                    }
+                }
             }
             return delivered - deliveredBefore;
         }
 
-        void passHour() {
+        private void moveClock() {
             hour++;
             if (hour >= HOURS_PER_DAY) {
                 hour = 0;
                 day++;
-            }
-            for (int route = 0; route < ROUTES; route++) {
-                if (departures[route] == hour) {
-                    bagCounts[route] = 0;
-                    sendLetters(route);
-                }
             }
         }
 

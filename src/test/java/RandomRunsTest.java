@@ -2,7 +2,10 @@ import java.util.ArrayList;
 import java.util.List;
 import java.util.Random;
 
-/** Long runs of calls on MailOffice and on PlainOffice at once; a fixed seed makes them the same. */
+/**
+ * Long runs of calls on MailOffice and on PlainOffice at once, the same in every test run.
+ * One object gets more calls than the 512 of the document here: the class knows no such limit.
+ */
 final class RandomRunsTest {
     private static final int RUNS = 300;
     private static final int CALLS = 400;
