@@ -51,6 +51,14 @@ final class Expect {
         }
     }
 
+    static int checksSoFar() {
+        return checks;
+    }
+
+    static int wrongSoFar() {
+        return wrong;
+    }
+
     /** The answer, or the exception that the call throws. */
     static Object outcome(Call call) {
         try {
