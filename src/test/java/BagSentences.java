@@ -193,8 +193,8 @@ final class BagSentences {
             Expect.equal("no bag was opened", 0, x.bagCount(0));
         });
         s.under("Promise 26: sortableCount");
-        s.test("Returns the number that sortAll would return now, computed on a copy of the office.",
-            () -> {
+        s.test("Returns the number that sortAll would return now, computed on a copy of the"
+            + " office.", () -> {
                 Expect.equal("empty office", 0, new MailOffice().sortableCount());
                 String three = "standard 1000 50;standard 1000 50;standard 1000 50";
                 MailOffice x = Offices.after("prefix 1 0", three, three, three,

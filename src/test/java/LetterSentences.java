@@ -247,8 +247,8 @@ final class LetterSentences {
         s.under("Promise 56: formatLetter");
         s.test("Formats a letter into the line, replacing the previous line: \"P\" for a priority"
             + " letter or \"S\" for a standard letter, the id, \":\", the code with four digits,"
-            + " \" \", the weight, \"g\", then \" r\", the route and \".\" and the number of the bag"
-            + " if it is in a bag, and \" *\" and the number of returns if there are any.",
+            + " \" \", the weight, \"g\", then \" r\", the route and \".\" and the number of the"
+            + " bag if it is in a bag, and \" *\" and the number of returns if there are any.",
             LetterSentences::forms);
         s.test("An example is \"P12:0076 20g r3.0 *1\".", () -> {
             MailOffice x = new MailOffice();

@@ -58,9 +58,9 @@ final class ProgramSentences {
             malformed("sort; sort", 5);
             malformed("sort sort", 5);
         });
-        s.test("command = kind code \" \" number | \"prefix \" code \" \" digit | \"unprefix \" code"
-            + " | \"sort\" [ \" \" number ] | \"place \" number \" \" digit | \"pull \" number |"
-            + " \"cutoff \" digit \" \" number | \"departure \" digit \" \" number | \"hours \""
+        s.test("command = kind code \" \" number | \"prefix \" code \" \" digit | \"unprefix \""
+            + " code | \"sort\" [ \" \" number ] | \"place \" number \" \" digit | \"pull \" number"
+            + " | \"cutoff \" digit \" \" number | \"departure \" digit \" \" number | \"hours \""
             + " number", ProgramSentences::commands);
         s.test("kind = \"priority \" | \"standard \"", () -> {
             wellFormed("priority 1 1");
@@ -74,6 +74,7 @@ final class ProgramSentences {
         s.test("code = digit [ digit ] [ digit ] [ digit ]", () -> {
             for (String code : new String[] {"0", "9", "00", "99", "000", "9999", "0000"}) {
                 wellFormed("priority " + code + " 1");
+                wellFormed("standard " + code + " 1");
                 wellFormed("prefix " + code + " 1");
                 wellFormed("unprefix " + code);
             }
@@ -81,6 +82,7 @@ final class ProgramSentences {
             malformed("prefix  1", 7);
             malformed("unprefix ", 9);
             malformed("priority 00000 1", 13);
+            malformed("standard 00000 1", 13);
             malformed("prefix 00000 1", 11);
             malformed("unprefix 00000", 13);
             malformed("unprefix 000/", 12);
@@ -88,8 +90,8 @@ final class ProgramSentences {
             malformed("unprefix a", 9);
         });
         s.test("number = digit [ digit ]", () -> {
-            for (String program : new String[] {"priority 1 ", "sort ", "pull ", "cutoff 1 ",
-                "departure 1 ", "hours "}) {
+            for (String program : new String[] {"priority 1 ", "standard 1 ", "sort ", "pull ",
+                "cutoff 1 ", "departure 1 ", "hours "}) {
                 wellFormed(program + "0");
                 wellFormed(program + "99");
                 malformed(program, program.length());
@@ -105,9 +107,9 @@ final class ProgramSentences {
     }
 
     private static void commands() {
-        for (String program : new String[] {"priority 1 1", "prefix 1 0", "prefix 1 9", "unprefix 1",
-            "sort", "sort 1", "place 1 0", "place 1 9", "pull 1", "cutoff 0 1", "cutoff 9 1",
-            "departure 0 1", "departure 9 1", "hours 1"}) {
+        for (String program : new String[] {"priority 1 1", "standard 1 1", "prefix 1 0",
+            "prefix 1 9", "unprefix 1", "sort", "sort 1", "place 1 0", "place 1 9", "pull 1",
+            "cutoff 0 1", "cutoff 9 1", "departure 0 1", "departure 9 1", "hours 1"}) {
             wellFormed(program);
             malformed(program + " ", program.equals("sort") ? 5 : program.length());
             malformed(program + "x", program.length());
@@ -266,7 +268,8 @@ final class ProgramSentences {
             String before = Offices.picture(x);
             for (String program : new String[] {"hours 9;priority 5 5;pull 0", "pull 0;pull 0",
                 "unprefix 1;cutoff 0 1;departure 0 1;sort;sort 7", "pull 0;prefix 1 0",
-                "priority 1 1;sort;place 1 3;hours 48;hours 49", "pull 0;sor", "pull 0;hours 1;x"}) {
+                "priority 1 1;sort;place 1 3;hours 48;hours 49", "pull 0;sor",
+                "pull 0;hours 1;x"}) {
                 Offices.type(x, program);
                 Object outcome = Expect.outcome(x::run);
                 Expect.equal(program + " fails", true, outcome instanceof RuntimeException);
@@ -274,7 +277,8 @@ final class ProgramSentences {
             }
             Expect.equal("all", 4, Offices.run(x, "pull 0;cutoff 0 1;departure 0 2;hours 1"));
             Expect.equal("the first", true, x.isInTray(0));
-            Expect.equal("the others", "1 2 1", x.cutoff(0) + " " + x.departure(0) + " " + x.hour());
+            Expect.equal("the second and the third", "1 2", x.cutoff(0) + " " + x.departure(0));
+            Expect.equal("the last", 1, x.hour());
         });
         s.test("The buffer is empty afterwards, even if an exception is thrown.", () -> {
             MailOffice x = new MailOffice();
@@ -299,8 +303,8 @@ final class ProgramSentences {
     }
 
     private static void runFails(Sentences s) {
-        s.test("Throws `IllegalArgumentException` if the program is malformed; the error position is"
-            + " stored", () -> {
+        s.test("Throws `IllegalArgumentException` if the program is malformed; the error position"
+            + " is stored", () -> {
                 MailOffice x = new MailOffice();
                 Expect.argument("empty", x::run);
                 Expect.equal("stored", 0, x.errorPosition());

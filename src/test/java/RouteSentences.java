@@ -1,4 +1,4 @@
-/** Routes and their bags: promises 36 to 40, 46 to 48 and 55, and the routes in other promises. */
+/** Routes and their bags: promises 36 to 40 and 46 to 48, and the routes in other promises. */
 final class RouteSentences {
     private static final String NO_ROUTE =
         "Throws `IndexOutOfBoundsException` if there is no such route";
@@ -27,7 +27,6 @@ final class RouteSentences {
         weights(s);
         fullestBag(s);
         routeByWeight(s);
-        isConsistent(s);
     }
 
     private static void routesOfChanges(Sentences s) {
@@ -182,15 +181,16 @@ final class RouteSentences {
 
     private static void fullestBag(Sentences s) {
         s.under("Promise 47: fullestBag");
-        s.test("Returns the bag of a route whose letters have the greatest weight together.", () -> {
-            MailOffice x = Offices.withFullRoute();
-            Offices.run(x, "priority 1 1;pull 3;place 9 0;pull 0;pull 6");
-            Expect.equal("the second of 100, 101 and 100 grams", 1, x.fullestBag(0));
-            Offices.run(x, "pull 9;pull 1;pull 4");
-            Expect.equal("the third of 50, 50 and 100 grams", 2, x.fullestBag(0));
-            Offices.run(x, "pull 7;pull 8");
-            Expect.equal("the first of 50, 50 and 0 grams", 0, x.fullestBag(0));
-        });
+        s.test("Returns the bag of a route whose letters have the greatest weight together.",
+            () -> {
+                MailOffice x = Offices.withFullRoute();
+                Offices.run(x, "priority 1 1;pull 3;place 9 0;pull 0;pull 6");
+                Expect.equal("the second of 100, 101 and 100 grams", 1, x.fullestBag(0));
+                Offices.run(x, "pull 9;pull 1;pull 4");
+                Expect.equal("the third of 50, 50 and 100 grams", 2, x.fullestBag(0));
+                Offices.run(x, "pull 7;pull 8");
+                Expect.equal("the first of 50, 50 and 0 grams", 0, x.fullestBag(0));
+            });
         s.test("Of several such bags it is the one with the lowest number.", () -> {
             MailOffice x = Offices.withFullRoute();
             Expect.equal("three full bags", 0, x.fullestBag(0));
@@ -242,9 +242,10 @@ final class RouteSentences {
             Expect.equal("5", 4, x.routeByWeight(5));
         });
         s.test("Throws `NoSuchElementException` if there is no such rank", () -> {
+            MailOffice x = Offices.withTwoBags();
             for (int rank : new int[] {-1, 6, 7, Offices.MIN, Offices.MAX}) {
-                Expect.element("new office, rank " + rank, () -> new MailOffice().routeByWeight(rank));
-                Expect.element("rank " + rank, () -> Offices.withTwoBags().routeByWeight(rank));
+                Expect.element("no bags, " + rank, () -> new MailOffice().routeByWeight(rank));
+                Expect.element("bags, " + rank, () -> x.routeByWeight(rank));
             }
         });
     }
@@ -255,30 +256,5 @@ final class RouteSentences {
             ranks.append(x.routeByWeight(rank));
         }
         return ranks.toString();
-    }
-
-    private static void isConsistent(Sentences s) {
-        s.under("Promise 55: isConsistent");
-        s.test("Checks the office: routeFor and routeForByTree agree for the codes of all letters"
-            + " in the office, routeWeight and routeWeightByBags agree for all routes, no bag is"
-            + " heavier than 150 grams, and the accepted letters are the letters in the office, the"
-            + " delivered letters and the dead letters together.", () -> {
-                Expect.equal("full bags", true, Offices.withFullRoute().isConsistent());
-                Expect.equal("full table", true, Offices.withFullTable().isConsistent());
-                Expect.equal("delivered and dead", true, Offices.withGoneLetters().isConsistent());
-            });
-        s.test("Returns true if all these checks succeed.", () -> {
-            MailOffice x = new MailOffice();
-            Expect.equal("new", true, x.isConsistent());
-            Offices.accept(x, 20, 1000, 50);
-            Expect.equal("no routes", true, x.isConsistent());
-            Offices.run(x, "prefix 1 0;prefix 10 1;prefix 100 2;prefix 1000 3");
-            Offices.run(x, "sort;place 19 0");
-            Expect.equal("routes", true, x.isConsistent());
-            x.pass(48);
-            Expect.equal("departed", true, x.isConsistent());
-            x.undo();
-            Expect.equal("undone", true, x.isConsistent());
-        });
     }
 }

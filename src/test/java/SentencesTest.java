@@ -8,13 +8,15 @@ final class SentencesTest {
     }
 
     public static void main(String[] args) throws IOException {
-        Sentences s = new Sentences(Files.readString(Path.of(System.getProperty("mailoffice.doc"))));
+        String doc = Files.readString(Path.of(System.getProperty("mailoffice.doc")));
+        Sentences s = new Sentences(doc);
         TermSentences.test(s);
         LetterSentences.test(s);
         TableSentences.test(s);
         BagSentences.test(s);
         RouteSentences.test(s);
         TimeSentences.test(s);
+        ConsistencySentences.test(s);
         ProgramSentences.test(s);
         UndoSentences.test(s);
         ErrorSentences.test(s);

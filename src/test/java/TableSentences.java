@@ -19,7 +19,8 @@ final class TableSentences {
     }
 
     static void test(Sentences s) {
-        badPrefixes(s, "Promise 3: addPrefix", (x, digits, length) -> x.addPrefix(digits, length, 0));
+        badPrefixes(s, "Promise 3: addPrefix",
+            (x, digits, length) -> x.addPrefix(digits, length, 0));
         badPrefixes(s, "Promise 4: removePrefix", MailOffice::removePrefix);
         badPrefixes(s, "Promise 31: hasPrefix", MailOffice::hasPrefix);
         addPrefix(s);
@@ -58,16 +59,16 @@ final class TableSentences {
             }
         });
         s.test(BAD_PREFIX, () -> {
-            int limit = 1;
+            int most = 0;
             for (int length = 1; length <= 4; length++) {
-                limit *= 10;
+                most = 10 * most + 9;
                 int asked = length;
-                int tooMany = limit;
-                Expect.argument("digits " + limit, () -> call.answer(new MailOffice(), tooMany, asked));
-                Expect.argument("digits MAX",
-                    () -> call.answer(new MailOffice(), Offices.MAX, asked));
-                Object outcome = outcome(call, limit - 1, length);
-                Expect.equal("digits " + (limit - 1) + ": " + outcome, false,
+                for (int digits : new int[] {most + 1, Offices.MAX}) {
+                    Expect.argument("digits " + digits,
+                        () -> call.answer(new MailOffice(), digits, asked));
+                }
+                Object outcome = outcome(call, most, length);
+                Expect.equal("digits " + most + ": " + outcome, false,
                     outcome instanceof IllegalArgumentException);
             }
         });
@@ -217,6 +218,11 @@ final class TableSentences {
             x.addPrefix(11, 2, 3);
             Expect.equal("the longest is not the last", 5, x.routeFor(1199));
         });
+        s.under("Promise 33: routeForByTree");
+        s.test("Returns the same route as routeFor, but walks digit by digit through a tree of the"
+            + " prefixes.", TableSentences::fullTree);
+        s.test("Returns the same route as routeFor, but walks digit by digit through a tree of the"
+            + " prefixes.", TableSentences::treeOfAChangedTable);
         s.under("Promise 34: matchLength");
         s.test("Returns the length of the longest prefix that matches a code.", () -> {
             MailOffice x = Offices.after("prefix 0 0;prefix 00 0;prefix 000 0;prefix 0000 0");
@@ -247,5 +253,49 @@ final class TableSentences {
             Expect.equal("the first", 1, x.codesOf(1));
             Expect.equal("the last", 1, x.codesOf(2));
         });
+        s.test("Returns the number of codes whose route is this route.", () -> {
+            MailOffice x = Offices.after("prefix 1 0;prefix 12 1;prefix 123 0;prefix 1234 2");
+            Expect.equal("a hole and an island with a hole", 1000 - 100 + 10 - 1, x.codesOf(0));
+            Expect.equal("the hole without the island", 100 - 10, x.codesOf(1));
+            Expect.equal("the hole in the island", 1, x.codesOf(2));
+            Expect.equal("no prefix", 0, x.codesOf(3));
+            Offices.run(x, "unprefix 12;prefix 12 0");
+            Expect.equal("inside of the same route", 999, x.codesOf(0));
+        });
+    }
+
+    /** Twelve prefixes of four digits with all ten first digits, which need the most nodes. */
+    private static void fullTree() {
+        MailOffice x = new MailOffice();
+        for (int route = 0; route < 6; route++) {
+            x.addPrefix(1111 * route, 4, route);
+            x.addPrefix(1111 * route + 4009, 4, 5 - route);
+        }
+        for (int route = 0; route < 6; route++) {
+            Expect.equal("first digit " + route, route, x.routeForByTree(1111 * route));
+            int code = 1111 * route + 4009;
+            Expect.equal("first digit " + code / 1000, 5 - route, x.routeForByTree(code));
+            int other = 1111 * route + 1;
+            Expect.element("code " + other, () -> x.routeForByTree(other));
+        }
+    }
+
+    private static void treeOfAChangedTable() {
+        MailOffice x = Offices.after("prefix 0099 1;prefix 9900 2");
+        Expect.equal("0099", 1, x.routeForByTree(99));
+        Expect.equal("9900", 2, x.routeForByTree(9900));
+        Offices.run(x, "unprefix 0099;unprefix 9900");
+        Expect.element("empty again, 0099", () -> x.routeForByTree(99));
+        Expect.element("empty again, 9900", () -> x.routeForByTree(9900));
+        Offices.run(x, "prefix 9090 3;prefix 0909 4");
+        Expect.equal("9090", 3, x.routeForByTree(9090));
+        Expect.equal("0909", 4, x.routeForByTree(909));
+        for (int code : new int[] {0, 99, 9900, 9999, 9, 9009, 990}) {
+            Expect.element("code " + code, () -> x.routeForByTree(code));
+        }
+        Offices.run(x, "prefix 9 5;prefix 90 0");
+        Expect.equal("a beginning of a longer one", 5, x.routeForByTree(9999));
+        Expect.equal("the longest", 3, x.routeForByTree(9090));
+        Expect.equal("route 0", 0, x.routeForByTree(9091));
     }
 }

@@ -13,8 +13,8 @@ final class UndoSentences {
     private static void terms(Sentences s) {
         s.under("Terms");
         String changes = "The calls of accept, addPrefix, removePrefix, sort, sortAll, place, pull,"
-            + " setCutoff, setDeparture, pass and run that return normally are changes, even if they"
-            + " have no effect.";
+            + " setCutoff, setDeparture, pass and run that return normally are changes, even if"
+            + " they have no effect.";
         s.test(changes, UndoSentences::everyChange);
         s.test(changes, () -> {
             MailOffice x = new MailOffice();
@@ -126,6 +126,15 @@ final class UndoSentences {
         });
         s.under("Promise 63: undo");
         s.test("Undoes the latest change that has not been undone.", () -> {
+            MailOffice x = Offices.withGoneLetters();
+            Offices.run(x, "cutoff 1 7;departure 4 11;prefix 12 5;place 2 3");
+            x.pass(47);
+            String before = Offices.picture(x);
+            x.pass(48);
+            x.undo();
+            Expect.equal("everything is as it was", before, Offices.picture(x));
+        });
+        s.test("Undoes the latest change that has not been undone.", () -> {
             MailOffice x = new MailOffice();
             x.setCutoff(0, 1);
             x.setCutoff(0, 2);
@@ -173,6 +182,7 @@ final class UndoSentences {
             + " earlier copy.";
         s.test(everything, () -> {
             MailOffice x = Offices.withGoneLetters();
+            Expect.equal("a run keeps the day", 2, x.day());
             Offices.run(x, "cutoff 1 7;cutoff 5 3;departure 4 11;prefix 12 5;place 2 3");
             String saved = Offices.picture(x);
             x.save();
