@@ -343,6 +343,7 @@ final class ProgramSentences {
         Expect.state(program, x::run);
         Expect.equal("the failed command of " + program, index, x.failedCommand());
         Expect.element("no error position of " + program, x::errorPosition);
+        Expect.equal("none of " + program, 0, x.letterCount() + x.prefixCount());
     }
 
     private static void stored(Sentences s) {

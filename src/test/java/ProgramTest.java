@@ -20,7 +20,6 @@ final class ProgramTest {
         everyCommand();
         bufferIsEmptyAfterwards();
         allOrNothing();
-        failures();
         malformed();
         storedPositions();
         errorPositionsAgainstThePattern();
@@ -92,34 +91,6 @@ final class ProgramTest {
         Expect.equal("59 none is executed", before, Offices.picture(x));
         Expect.equal("59 no change", 1, x.undoableCount());
         Expect.equal("59 the id was not used", 2, x.accept(1, 1, true));
-    }
-
-    private static void failures() {
-        fails("priority 1 0", 0);
-        fails("priority 1 51", 0);
-        fails("sort;prefix 1 6", 1);
-        fails("prefix 1 1;prefix 1 2", 1);
-        fails("unprefix 1", 0);
-        fails("sort;sort;sort 3", 2);
-        fails("place 1 1", 0);
-        fails("standard 1 1;place 0 6", 1);
-        fails("standard 1 1;place 0 5;place 0 5", 2);
-        fails("pull 0", 0);
-        fails("cutoff 6 1", 0);
-        fails("cutoff 5 25", 0);
-        fails("departure 6 1", 0);
-        fails("departure 5 24", 0);
-        fails("hours 0", 0);
-        fails("hours 49", 0);
-    }
-
-    private static void fails(String program, int index) {
-        MailOffice x = new MailOffice();
-        Offices.type(x, program);
-        Expect.state("59 " + program, x::run);
-        Expect.equal("61 " + program, index, x.failedCommand());
-        Expect.element("60 " + program, x::errorPosition);
-        Expect.equal("59 unchanged by " + program, 0, x.letterCount() + x.prefixCount());
     }
 
     private static void malformed() {

@@ -112,6 +112,8 @@ final class UndoSentences {
         Expect.equal(what + " has an effect", false, before.equals(Offices.picture(x)));
         Expect.equal(what + " is undone", 1, x.undo());
         Expect.equal(what + " has no effect any more", before, Offices.picture(x));
+        Expect.equal("the next id after " + what, 2, x.accept(1, 1, false));
+        x.undo();
     }
 
     private static void undo(Sentences s) {

@@ -4,7 +4,6 @@ final class UndoTest {
     }
 
     public static void main(String[] args) {
-        everyChangeCanBeUndone();
         copiesHoldEverything();
         changesWithoutEffect();
         atMostEight();
@@ -22,34 +21,6 @@ final class UndoTest {
     private static MailOffice busy() {
         return Offices.after("prefix 1 0;standard 1000 5;priority 2 9;standard 1001 5",
             "sort 0;place 1 3;hours 2");
-    }
-
-    private static void everyChangeCanBeUndone() {
-        MailOffice x = busy();
-        undone(x, "accept", () -> x.accept(5, 5, true));
-        undone(x, "addPrefix", () -> x.addPrefix(12, 2, 4));
-        undone(x, "removePrefix", () -> x.removePrefix(1, 1));
-        undone(x, "sort", () -> x.sort(2));
-        undone(x, "sortAll", x::sortAll);
-        undone(x, "place", () -> x.place(2, 5));
-        undone(x, "pull", () -> x.pull(0));
-        undone(x, "setCutoff", () -> x.setCutoff(1, 1));
-        undone(x, "setDeparture", () -> x.setDeparture(1, 1));
-        undone(x, "pass", () -> x.pass(30));
-        Offices.type(x, "pull 0;priority 3 3;hours 9;unprefix 1");
-        undone(x, "run", x::run);
-    }
-
-    private static void undone(MailOffice x, String what, Expect.Call change) {
-        String before = Offices.picture(x);
-        int count = x.undoableCount();
-        change.answer();
-        Expect.equal("62 after " + what, count + 1, x.undoableCount());
-        Expect.equal("63 " + what + " had an effect", false, before.equals(Offices.picture(x)));
-        Expect.equal("63 answer for " + what, count, x.undo());
-        Expect.equal("63 " + what, before, Offices.picture(x));
-        Expect.equal("63 next id after " + what, 3, x.accept(1, 1, false));
-        x.undo();
     }
 
     /** An office in which nothing is as it was at first. */
